@@ -3,12 +3,18 @@ final class Check {
     private static final int MOST_PRINTED = 40;
 
     private int wrong = 0;
+    private String about = "";
+
+    /** The sentence of the document to which the answers that follow belong. */
+    void about(String sentence) {
+        about = "\"" + sentence + "\": ";
+    }
 
     void due(String call, long got, long want) {
         if (got != want) {
             wrong++;
             if (wrong <= MOST_PRINTED) {
-                System.out.println(call + " answered " + got + ", due is " + want);
+                System.out.println(about + call + " answered " + got + ", due is " + want);
             }
         }
     }
